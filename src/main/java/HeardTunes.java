@@ -28,10 +28,11 @@ public final class HeardTunes {
     private final Scene walledTrial = new Scene(told, walledGround);
     private final Plan row = new Plan();
     private final Seen seen = new Seen();
-    private final Soonest leading = new Soonest(told, ground);
-    private final Fitting fitting = new Fitting(told, ground, seen);
-    private final Draws draws = new Draws();
+    private final Memo memo = new Memo();
+    private final Soonest leading = new Soonest(told, ground, memo);
+    private final Fitting fitting = new Fitting(told, ground, seen, memo);
     private final Image[] images = new Image[IMAGES];
+    private int theSeed;
 
     public HeardTunes() {
         for (int i = 0; i < IMAGES; i++) {
@@ -169,8 +170,8 @@ public final class HeardTunes {
             return NOT;
         }
         for (int i = 0; i < n; i++) {
-            int step = draws.draw(STEPS + 1);
-            int t = draws.draw(told.tunes + 1);
+            int step = draw(STEPS + 1);
+            int t = draw(told.tunes + 1);
             now.pass(now.may(step) ? step : 0, t < told.tunes ? t : NONE);
         }
         leading.forget();
@@ -312,8 +313,8 @@ public final class HeardTunes {
         if (v < 0) {
             return OUTSIDE;
         }
-        int was = draws.value;
-        draws.value = v;
+        int was = theSeed;
+        theSeed = v;
         return was;
     }
 
@@ -321,7 +322,7 @@ public final class HeardTunes {
         if (!isImage(i)) {
             return UNKNOWN;
         }
-        images[i].take(now, ground, draws);
+        images[i].take(now, ground, theSeed);
         return 1;
     }
 
@@ -332,7 +333,8 @@ public final class HeardTunes {
         if (!images[i].isKept) {
             return NOT;
         }
-        images[i].give(now, ground, draws);
+        images[i].give(now, ground);
+        theSeed = images[i].theSeed;
         leading.forget();
         return 1;
     }
@@ -373,6 +375,11 @@ public final class HeardTunes {
         for (int i = 0; i < IMAGES; i++) {
             images[i].isKept = false;
         }
+    }
+
+    private int draw(int n) {
+        theSeed = (int) (theSeed * 1103515245L + 12345L & 2147483647L);
+        return n > 0 ? theSeed / 65536 % n : 0;
     }
 
     /** Tries the plan for so many minutes at most; how many of them may be. */
@@ -946,6 +953,24 @@ public final class HeardTunes {
         int worth() {
             return town.forOut * heads(NONE, OUT) - town.forDrowned * heads(NONE, DROWNED);
         }
+
+        /** Tells scenes apart by where all are; it has 42 bits. */
+        long places() {
+            long key = piper;
+            for (int c = 0; c < town.crowds; c++) {
+                key = key << 6 | at[c];
+            }
+            return key;
+        }
+
+        /** Tells scenes apart by whither all go. */
+        long goals() {
+            long key = 0;
+            for (int c = 0; c < town.crowds; c++) {
+                key = key << 6 | goal[c] + 1;
+            }
+            return key;
+        }
     }
 
     /** A row of minutes that are thought of. */
@@ -1007,6 +1032,42 @@ public final class HeardTunes {
         }
     }
 
+    /**
+     * What a search found out of a scene: most walks lead to scenes that others led to already. A
+     * later scene may take the place of an earlier one; then that is only searched again.
+     */
+    static final class Memo {
+        private static final int SLOTS = 1024;
+
+        private final long[] places = new long[SLOTS];
+        private final long[] goals = new long[SLOTS];
+        private final int[] values = new int[SLOTS];
+
+        void clear() {
+            for (int i = 0; i < SLOTS; i++) {
+                values[i] = NONE;
+            }
+        }
+
+        private static int slot(long place, long goal) {
+            long mixed = (place * 31 + goal) * 0x9E3779B97F4A7C15L;
+            return (int) (mixed >>> 54) & SLOTS - 1;
+        }
+
+        /** NONE: nothing is known of it. */
+        int value(long place, long goal) {
+            int i = slot(place, goal);
+            return places[i] == place && goals[i] == goal ? values[i] : NONE;
+        }
+
+        void put(long place, long goal, int value) {
+            int i = slot(place, goal);
+            places[i] = place;
+            goals[i] = goal;
+            values[i] = value;
+        }
+    }
+
     /** The search for the soonest walk that leads out a kind and none of another. */
     static final class Soonest {
         private static final int HOPELESS = 0, OPEN = 1, LED = 2;
@@ -1017,13 +1078,16 @@ public final class HeardTunes {
         private final Scene[] levels = new Scene[MOST_SOONEST + 1];
         private final int[] steps = new int[MOST_SOONEST];
         private final int[] toGate = new int[MOST_CELLS];
+        // The most minutes that are known not to be enough from a scene.
+        private final Memo memo;
         private boolean isKnown;
         private int kind;
         private int tune;
 
-        Soonest(Town town, Ground ground) {
+        Soonest(Town town, Ground ground, Memo memo) {
             this.town = town;
             this.ground = ground;
+            this.memo = memo;
             for (int i = 0; i <= MOST_SOONEST; i++) {
                 levels[i] = new Scene(town, ground);
             }
@@ -1047,6 +1111,7 @@ public final class HeardTunes {
             tune = t;
             minutes = NONE;
             levels[0].copy(now);
+            memo.clear();
             findGates();
             for (int n = 0; n <= MOST_SOONEST && minutes == NONE; n++) {
                 if (leads(0, n)) {
@@ -1070,21 +1135,35 @@ public final class HeardTunes {
         }
 
         private boolean leads(int depth, int most) {
-            int outlook = outlook(levels[depth], most - depth);
-            if (outlook != OPEN || depth >= most || depth >= MOST_SOONEST) {
+            Scene scene = levels[depth];
+            int rest = most - depth;
+            int outlook = outlook(scene, rest);
+            if (outlook != OPEN || rest <= 0 || depth >= MOST_SOONEST) {
                 return outlook == LED;
             }
-            for (int step = 0; step <= STEPS; step++) {
+            long places = scene.places();
+            long goals = scene.goals();
+            if (memo.value(places, goals) >= rest) {
+                return false;
+            }
+            if (stepLeads(depth, most)) {
+                return true;
+            }
+            memo.put(places, goals, rest);
+            return false;
+        }
+
+        private boolean stepLeads(int depth, int most) {
+            boolean is = false;
+            for (int step = 0; step <= STEPS && !is; step++) {
                 if (levels[depth].may(step)) {
                     levels[depth + 1].copy(levels[depth]);
                     levels[depth + 1].pass(step, tune);
                     steps[depth] = step;
-                    if (leads(depth + 1, most)) {
-                        return true;
-                    }
+                    is = leads(depth + 1, most);
                 }
             }
-            return false;
+            return is;
         }
 
         private int outlook(Scene scene, int rest) {
@@ -1119,30 +1198,35 @@ public final class HeardTunes {
         private final int[] first = new int[MOST_WALK];
         // How many walks of so many minutes the piper has from a cell, whoever follows.
         private final int[] free = new int[(MOST_WALK + 1) * MOST_CELLS];
+        // How many walks fit from a scene on, behind so many minutes.
+        private final Memo memo;
+        private boolean isFound;
         private int length;
         private int latest;
         private int tune;
 
-        Fitting(Town town, Ground ground, Seen seen) {
+        Fitting(Town town, Ground ground, Seen seen, Memo memo) {
             this.ground = ground;
             this.seen = seen;
+            this.memo = memo;
             for (int i = 0; i <= MOST_WALK; i++) {
                 levels[i] = new Scene(town, ground);
             }
         }
 
         int stepAt(int i) {
-            return count > 0 && i >= 0 && i < length ? first[i] : NONE;
+            return isFound && i >= 0 && i < length ? first[i] : NONE;
         }
 
         void search(Scene now, int n, int t) {
-            count = 0;
             length = n;
             latest = seen.latest(n);
             tune = t;
+            isFound = false;
             levels[0].copy(now);
+            memo.clear();
             countFree();
-            fit(0);
+            count = fit(0);
         }
 
         private void countFree() {
@@ -1168,67 +1252,66 @@ public final class HeardTunes {
             return sum;
         }
 
-        /** Behind the latest that was seen all walks fit, and staying is the first of them. */
-        private void fit(int depth) {
+        /** How many; behind the latest that was seen all walks fit, and staying is the first. */
+        private int fit(int depth) {
             Scene scene = levels[depth];
             if (depth >= latest || depth >= MOST_WALK) {
-                if (count == 0) {
-                    keepFirst();
-                }
-                count += free[(length - latest) * MOST_CELLS + scene.piper];
-                return;
+                keepFirst();
+                return free[(length - latest) * MOST_CELLS + scene.piper];
             }
+            long places = (long) depth << 42 | scene.places();
+            long goals = scene.goals();
+            int known = memo.value(places, goals);
+            if (known != NONE) {
+                return known;
+            }
+            int sum = fitSteps(depth);
+            memo.put(places, goals, sum);
+            return sum;
+        }
+
+        private int fitSteps(int depth) {
+            int sum = 0;
             for (int step = 0; step <= STEPS; step++) {
-                if (scene.may(step)) {
-                    levels[depth + 1].copy(scene);
+                if (levels[depth].may(step)) {
+                    levels[depth + 1].copy(levels[depth]);
                     levels[depth + 1].pass(step, tune);
                     steps[depth] = step;
-                    if (seen.fits(levels[depth + 1], depth + 1)) {
-                        fit(depth + 1);
-                    }
+                    sum += seen.fits(levels[depth + 1], depth + 1) ? fit(depth + 1) : 0;
                 }
             }
+            return sum;
         }
 
         private void keepFirst() {
-            for (int i = 0; i < MOST_WALK; i++) {
+            for (int i = 0; i < MOST_WALK && !isFound; i++) {
                 first[i] = i < latest ? steps[i] : 0;
             }
-        }
-    }
-
-    /** THE SEED, and what is drawn by it. */
-    static final class Draws {
-        int value;
-
-        int draw(int n) {
-            value = (int) (value * 1103515245L + 12345L & 2147483647L);
-            return n > 0 ? value / 65536 % n : 0;
+            isFound = true;
         }
     }
 
     /** What was so once, to go on from. */
     static final class Image {
         boolean isKept;
+        int theSeed;
         private final Scene scene;
         private final int[] whats = new int[MOST_CELLS];
-        private int seedValue;
 
         Image(Town town, Ground ground) {
             scene = new Scene(town, ground);
         }
 
-        void take(Scene now, Ground ground, Draws draws) {
+        void take(Scene now, Ground ground, int seedNow) {
             isKept = true;
+            theSeed = seedNow;
             scene.copy(now);
             ground.giveWhats(whats);
-            seedValue = draws.value;
         }
 
-        void give(Scene now, Ground ground, Draws draws) {
+        void give(Scene now, Ground ground) {
             now.copy(scene);
             ground.takeWhats(whats);
-            draws.value = seedValue;
         }
     }
 }
