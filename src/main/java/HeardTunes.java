@@ -19,24 +19,24 @@ public final class HeardTunes {
     private static final int MOST_SOONEST = 6, MOST_WALK = 5, MOST_SEEN = 10;
 
     private final Reader reader = new Reader();
-    private final Town told = new Town();
+    private final Town tale = new Town();
     private final Town draft = new Town();
     private final Ground ground = new Ground();
     private final Ground walledGround = new Ground();
-    private final Scene now = new Scene(told, ground);
-    private final Scene trial = new Scene(told, ground);
-    private final Scene walledTrial = new Scene(told, walledGround);
+    private final Scene now = new Scene(tale, ground);
+    private final Scene trial = new Scene(tale, ground);
+    private final Scene walledTrial = new Scene(tale, walledGround);
     private final Plan row = new Plan();
     private final Seen seen = new Seen();
     private final Memo memo = new Memo();
-    private final Soonest leading = new Soonest(told, ground, memo);
-    private final Fitting fitting = new Fitting(told, ground, seen, memo);
+    private final Soonest leading = new Soonest(tale, ground, memo);
+    private final Fitting fitting = new Fitting(tale, ground, seen, memo);
     private final Image[] images = new Image[IMAGES];
     private int theSeed;
 
     public HeardTunes() {
         for (int i = 0; i < IMAGES; i++) {
-            images[i] = new Image(told, ground);
+            images[i] = new Image(tale, ground);
         }
         begin();
     }
@@ -60,7 +60,7 @@ public final class HeardTunes {
         // Read into a draft first: a fault leaves the town that is there as it was.
         boolean good = reader.read(draft);
         if (good) {
-            reader.read(told);
+            reader.read(tale);
             begin();
         }
         reader.length = 0;
@@ -73,10 +73,10 @@ public final class HeardTunes {
 
     public int told(int what) {
         switch (what) {
-            case 0: return told.width;
-            case 1: return told.height;
-            case 2: return told.crowds;
-            case 3: return told.tunes;
+            case 0: return tale.width;
+            case 1: return tale.height;
+            case 2: return tale.crowds;
+            case 3: return tale.tunes;
             case 4: return reader.length;
             case 5: return now.minutes;
             case 6: return ground.code(now.piper);
@@ -92,7 +92,7 @@ public final class HeardTunes {
 
     public int cell(int x, int y) {
         int at = ground.cellAt(x, y);
-        return at == NONE ? UNKNOWN : ground.what(at);
+        return at == NONE ? UNKNOWN : ground.whats[at];
     }
 
     public int crowd(int c, int what) {
@@ -100,10 +100,10 @@ public final class HeardTunes {
             return UNKNOWN;
         }
         switch (what) {
-            case 0: return told.kind[c];
-            case 1: return told.heads[c];
-            case 2: return told.pace[c];
-            case 3: return told.deaf[c];
+            case 0: return tale.kind[c];
+            case 1: return tale.heads[c];
+            case 2: return tale.pace[c];
+            case 3: return tale.deaf[c];
             case 4: return ground.code(now.at[c]);
             case 5: return ground.code(now.goal[c]);
             case 6: return now.fate(c);
@@ -116,8 +116,8 @@ public final class HeardTunes {
             return UNKNOWN;
         }
         switch (what) {
-            case 0: return told.follows[t];
-            case 1: return told.reach[t];
+            case 0: return tale.follows[t];
+            case 1: return tale.reach[t];
             case 2: return now.hearers(t);
             default: return OUTSIDE;
         }
@@ -151,7 +151,7 @@ public final class HeardTunes {
         if (at == NONE) {
             return UNKNOWN;
         }
-        int what = ground.what(at);
+        int what = ground.whats[at];
         if (what == WATER || what == GATE || now.holds(at)) {
             return NOT;
         }
@@ -171,8 +171,8 @@ public final class HeardTunes {
         }
         for (int i = 0; i < n; i++) {
             int step = draw(STEPS + 1);
-            int t = draw(told.tunes + 1);
-            now.pass(now.may(step) ? step : 0, t < told.tunes ? t : NONE);
+            int t = draw(tale.tunes + 1);
+            now.pass(now.may(step) ? step : 0, t < tale.tunes ? t : NONE);
         }
         leading.forget();
         return now.left();
@@ -248,7 +248,7 @@ public final class HeardTunes {
         walledGround.copy(ground);
         // Nobody who is out comes back: no wall leaves fewer than are out now.
         for (int at = 0; at < ground.count && (best == NONE || fewest > outNow); at++) {
-            if (ground.what(at) == FREE && !now.holds(at)) {
+            if (ground.whats[at] == FREE && !now.holds(at)) {
                 int heads = outBehindWall(at, k);
                 if (best == NONE || heads < fewest) {
                     best = at;
@@ -265,8 +265,8 @@ public final class HeardTunes {
         }
         tryPlan(MOST_PLAN);
         int set = 0;
-        for (int c = 0; c < told.crowds; c++) {
-            if (told.kind[c] == k && trial.fate(c) != now.fate(c)) {
+        for (int c = 0; c < tale.crowds; c++) {
+            if (tale.kind[c] == k && trial.fate(c) != now.fate(c)) {
                 set |= 1 << c;
             }
         }
@@ -354,11 +354,11 @@ public final class HeardTunes {
     }
 
     private boolean isCrowd(int c) {
-        return c >= 0 && c < told.crowds;
+        return c >= 0 && c < tale.crowds;
     }
 
     private boolean isTune(int t) {
-        return t >= 0 && t < told.tunes;
+        return t >= 0 && t < tale.tunes;
     }
 
     private boolean isTuneOrNone(int t) {
@@ -366,8 +366,8 @@ public final class HeardTunes {
     }
 
     private void begin() {
-        ground.lay(told);
-        walledGround.lay(told);
+        ground.lay(tale);
+        walledGround.lay(tale);
         now.begin();
         row.count = 0;
         seen.count = 0;
@@ -435,7 +435,7 @@ public final class HeardTunes {
             return heads[c] - deaf[c];
         }
 
-        boolean follows(int c, int t) {
+        boolean isFollower(int c, int t) {
             return (follows[t] >> kind[c] & 1) == 1;
         }
 
@@ -443,7 +443,7 @@ public final class HeardTunes {
         boolean isTaken(int at) {
             boolean taken = what[at] != FREE || piper == at;
             for (int c = 0; c < crowds; c++) {
-                taken |= start[c] == at;
+                taken = taken || start[c] == at;
             }
             return taken;
         }
@@ -531,7 +531,14 @@ public final class HeardTunes {
             } else if (isTooMany(town, word)) {
                 blame(TOO_MANY, from);
             } else {
-                readNumbers(town, word);
+                switch (word) {
+                    case TOWN: readSize(town); break;
+                    case CROWD: readCrowd(town); break;
+                    case TUNE: readTune(town); break;
+                    case PIPER: readPiper(town); break;
+                    case PAY: readPay(town); break;
+                    default: readSpot(town, word); break;
+                }
                 readEnd();
             }
         }
@@ -544,17 +551,6 @@ public final class HeardTunes {
                 case PIPER: return town.piper != NONE;
                 case PAY: return town.hasPay;
                 default: return town.spots >= MOST_SPOTS;
-            }
-        }
-
-        private void readNumbers(Town town, int word) {
-            switch (word) {
-                case TOWN: readSize(town); break;
-                case CROWD: readCrowd(town); break;
-                case TUNE: readTune(town); break;
-                case PIPER: readPiper(town); break;
-                case PAY: readPay(town); break;
-                default: readSpot(town, word); break;
             }
         }
 
@@ -582,7 +578,8 @@ public final class HeardTunes {
 
         private void readCrowd(Town town) {
             int kind = readNumber(0, KINDS - 1);
-            int at = readFreeCell(town);
+            int at = readCell(town);
+            blameIfSpot(town, at);
             int heads = readNumber(1, MOST_HEADS);
             int pace = readNumber(1, MOST_PACE);
             int deaf = readNumber(0, heads);
@@ -600,7 +597,8 @@ public final class HeardTunes {
         }
 
         private void readPiper(Town town) {
-            int at = readFreeCell(town);
+            int at = readCell(town);
+            blameIfSpot(town, at);
             if (fault == 0) {
                 town.piper = at;
             }
@@ -619,12 +617,11 @@ public final class HeardTunes {
             return fault == 0 ? y * town.width + x : NONE;
         }
 
-        private int readFreeCell(Town town) {
-            int at = readCell(town);
+        /** Right behind the cell's Y, where the fault is. */
+        private void blameIfSpot(Town town, int at) {
             if (at != NONE && town.what[at] != FREE) {
                 blame(TAKEN, numberAt);
             }
-            return at;
         }
 
         /** Reads nothing behind a fault, and answers the least number then. */
@@ -701,9 +698,9 @@ public final class HeardTunes {
     /** The cells as they are now, and how far it is by ways. */
     static final class Ground {
         int count;
+        final int[] whats = new int[MOST_CELLS];
         private int width;
         private int height;
-        private final int[] whats = new int[MOST_CELLS];
         private final int[] codes = new int[MOST_CELLS];
         private final int[] besides = new int[MOST_CELLS * STEPS];
         // A row for each goal, found when it is asked for: most goals never are.
@@ -768,10 +765,6 @@ public final class HeardTunes {
             return x >= 0 && x < width && y >= 0 && y < height ? y * width + x : NONE;
         }
 
-        int what(int at) {
-            return whats[at];
-        }
-
         /** NONE of NONE; 0 of the piper's cell without cells. */
         int code(int at) {
             return at == NONE ? NONE : count == 0 ? 0 : codes[at];
@@ -791,14 +784,15 @@ public final class HeardTunes {
 
         /** The cell to go to next; NONE at the goal and where no way leads to it. */
         int onward(int from, int goal) {
-            int left = steps(from, goal);
-            // At the goal a cell without a way would look as if it were one less far.
-            if (left <= 0) {
-                return NONE;
+            if (!isFound[goal]) {
+                findWays(goal);
             }
-            for (int step = 1; step <= STEPS; step++) {
-                int to = beside(from, step);
-                if (to != NONE && ways[goal * MOST_CELLS + to] == left - 1) {
+            int first = goal * MOST_CELLS;
+            int left = ways[first + from];
+            // At the goal a cell without a way would look as if it were one less far.
+            for (int i = 0; i < STEPS && left > 0; i++) {
+                int to = besides[from * STEPS + i];
+                if (to != NONE && ways[first + to] == left - 1) {
                     return to;
                 }
             }
@@ -814,11 +808,12 @@ public final class HeardTunes {
             isFound[goal] = true;
             queue[0] = goal;
             int queued = whats[goal] == WALL ? 0 : 1;
-            for (int i = 0; i < queued && i < MOST_CELLS; i++) {
-                for (int step = 1; step <= STEPS; step++) {
-                    int to = beside(queue[i], step);
+            for (int next = 0; next < queued && next < MOST_CELLS; next++) {
+                int from = queue[next];
+                for (int i = 0; i < STEPS; i++) {
+                    int to = besides[from * STEPS + i];
                     if (to != NONE && whats[to] != WALL && ways[first + to] == NONE && queued < MOST_CELLS) {
-                        ways[first + to] = ways[first + queue[i]] + 1;
+                        ways[first + to] = ways[first + from] + 1;
                         queue[queued] = to;
                         queued++;
                     }
@@ -864,7 +859,7 @@ public final class HeardTunes {
                 return ground.count > 0;
             }
             int to = ground.beside(piper, step);
-            return to != NONE && ground.what(to) != WALL && ground.what(to) != WATER;
+            return to != NONE && ground.whats[to] != WALL && ground.whats[to] != WATER;
         }
 
         /** A minute whose step may be. */
@@ -884,7 +879,7 @@ public final class HeardTunes {
         }
 
         private boolean hears(int c, int t) {
-            if (!town.follows(c, t) || !isHere(c)) {
+            if (!town.isFollower(c, t) || !isHere(c)) {
                 return false;
             }
             int away = ground.steps(at[c], piper);
@@ -913,7 +908,7 @@ public final class HeardTunes {
 
         /** No crowd begins on water or at a gate: who is there went there. */
         int fate(int c) {
-            int what = ground.what(at[c]);
+            int what = ground.whats[at[c]];
             return what == GATE ? OUT : what == WATER ? DROWNED : HERE;
         }
 
@@ -926,7 +921,7 @@ public final class HeardTunes {
         boolean holds(int cell) {
             boolean is = piper == cell;
             for (int c = 0; c < town.crowds; c++) {
-                is |= at[c] == cell && isHere(c);
+                is = is || at[c] == cell && isHere(c);
             }
             return is;
         }
@@ -1017,7 +1012,7 @@ public final class HeardTunes {
         boolean fits(Scene scene, int m) {
             boolean fits = true;
             for (int i = 0; i < count; i++) {
-                fits &= minutes[i] != m || scene.at[crowds[i]] == cells[i];
+                fits = fits && (minutes[i] != m || scene.at[crowds[i]] == cells[i]);
             }
             return fits;
         }
@@ -1125,7 +1120,7 @@ public final class HeardTunes {
                 toGate[at] = NONE;
             }
             for (int gate = 0; gate < ground.count; gate++) {
-                for (int at = 0; at < ground.count && ground.what(gate) == GATE; at++) {
+                for (int at = 0; at < ground.count && ground.whats[gate] == GATE; at++) {
                     int away = ground.steps(at, gate);
                     if (away != NONE && (toGate[at] == NONE || away < toGate[at])) {
                         toGate[at] = away;
@@ -1183,7 +1178,7 @@ public final class HeardTunes {
         /** Whether a crowd may be out by then, as far as its pace, the gates and its ears tell. */
         private boolean canLeave(Scene scene, int c, int rest) {
             int away = toGate[scene.at[c]];
-            boolean moves = scene.goal[c] != NONE || town.follows(c, tune);
+            boolean moves = scene.goal[c] != NONE || town.isFollower(c, tune);
             return moves && away != NONE && away <= rest * town.pace[c];
         }
     }

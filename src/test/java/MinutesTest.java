@@ -15,6 +15,7 @@ public final class MinutesTest {
         refusedWalls();
         wallsInTheWay();
         drift();
+        driftPlays();
         refusedDrift();
         Check.end("MinutesTest");
     }
@@ -219,6 +220,30 @@ public final class MinutesTest {
         HeardTunes quiet = Check.told("town 1 1;");
         quiet.drift(1);
         Check.due("without tunes there are two draws too", quiet.seed(0), twoDraws(0));
+    }
+
+    /** The same minutes, drawn here, on another object. */
+    private static void driftPlays() {
+        String town = "town 6 6;wall 2 2;wall 3 2;gate 5 5;water 0 5;crowd 0 0 0 5 1 0;crowd 1 5 0 7 2 0;crowd 2 4 4 9 3 1;"
+            + "tune 1 20;tune 2 20;piper 3 3;";
+        HeardTunes drawn = Check.told(town);
+        HeardTunes played = Check.told(town);
+        long seed = 99;
+        drawn.seed(99);
+        for (int i = 0; i < 60; i++) {
+            seed = (seed * 1103515245L + 12345L) % (1L << 31);
+            int step = (int) (seed / 65536 % 5);
+            seed = (seed * 1103515245L + 12345L) % (1L << 31);
+            int t = (int) (seed / 65536 % 3);
+            if (played.minute(step, t == 2 ? NONE : t) == NOT) {
+                played.minute(0, t == 2 ? NONE : t);
+            }
+            Check.due("LEFT", drawn.drift(1), played.told(9));
+            for (int c = 0; c < 3; c++) {
+                Check.due("where crowd " + c + " is", drawn.crowd(c, 4), played.crowd(c, 4));
+                Check.due("whither crowd " + c + " goes", drawn.crowd(c, 5), played.crowd(c, 5));
+            }
+        }
     }
 
     private static long twoDraws(long seed) {

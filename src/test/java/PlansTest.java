@@ -15,6 +15,7 @@ public final class PlansTest {
         soonestInOrder();
         soonestTooFar();
         bestWall();
+        bestWallAmongLikeOnes();
         bestWallSkips();
         wax();
         plansChangeNothing();
@@ -214,6 +215,12 @@ public final class PlansTest {
         Check.due("six minutes are found", six.soonest(0, 0, NONE), 6);
         Check.due("the last STEP", six.soonest(0, 0, 5), 2);
         Check.due("no seventh", six.soonest(0, 0, 6), NONE);
+        HeardTunes west = Check.told("town 3 1;gate 0 0;crowd 0 1 0 9 1 0;tune 1 20;piper 2 0;");
+        Check.due("two steps west", west.soonest(0, 0, NONE), 2);
+        west.minute(0, 0);
+        Check.due("and again from where they are then", west.soonest(0, 0, NONE), 2);
+        Check.due("STEP 0", west.soonest(0, 0, 0), 4);
+        Check.due("STEP 1", west.soonest(0, 0, 1), 4);
         HeardTunes seven = Check.told("town 8 1;gate 7 0;crowd 0 0 0 9 1 0;tune 1 20;piper 6 0;");
         Check.due("seven are not", seven.soonest(0, 0, NONE), NONE);
         Check.due("no STEP then", seven.soonest(0, 0, 0), NONE);
@@ -245,6 +252,20 @@ public final class PlansTest {
         Check.due("out by the plan", wrong.tried(0, 0), 9);
         Check.due("a wall that makes it wrong", wrong.bestWall(0, 0), 20);
         Check.due("up to there", wrong.bestWall(0, 1), 0);
+    }
+
+    private static void bestWallAmongLikeOnes() {
+        HeardTunes x = Check.told("town 4 1;gate 3 0;crowd 0 2 0 9 1 0;tune 1 20;piper 2 0;");
+        x.plan(2, 0);
+        Check.due("no wall helps: the first", x.bestWall(0, 0), 0);
+        Check.due("all go out", x.bestWall(0, 1), 9);
+        HeardTunes opened = Check.told("town 4 2;wall 2 0;wall 2 1;gate 3 0;crowd 0 1 0 9 1 0;tune 1 20;piper 3 1;");
+        opened.wall(2, 0, false);
+        opened.plan(0, 0);
+        opened.plan(0, 0);
+        Check.due("where a wall was before", opened.bestWall(0, 0), 20);
+        opened.wall(2, 0, true);
+        Check.due("with it the first", opened.bestWall(0, 0), 0);
     }
 
     private static void bestWallSkips() {

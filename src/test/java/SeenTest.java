@@ -79,6 +79,12 @@ public final class SeenTest {
         Check.due("but before", x.walks(2, 0, NONE), 3);
         x.tear();
         Check.due("torn", x.walks(1, 0, NONE), 3);
+        for (int i = 0; i < 5; i++) {
+            Check.due("the first stays everywhere", x.walks(5, 0, i), 0);
+        }
+        x.see(0, 1, 1, 0);
+        Check.due("west once more", x.walks(5, 0, 0), 4);
+        Check.due("then he stays", x.walks(5, 0, 1), 0);
     }
 
     private static void onlyUpToN() {

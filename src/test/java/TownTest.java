@@ -93,6 +93,7 @@ public final class TownTest {
         HeardTunes x = Check.told("town 2 1;");
         Check.due("an empty text makes no cells", x.town(), 0);
         Check.due("told(0) behind it", x.told(0), 0);
+        Check.due("told(1) behind it", x.told(1), 0);
         Check.due("cell(0, 0) behind it", x.cell(0, 0), UNKNOWN);
     }
 
@@ -258,6 +259,29 @@ public final class TownTest {
         Check.due("no goal", x.crowd(0, 5), NONE);
         Check.due("no gate", x.cell(1, 0), 0);
         Check.due("the seed stays", x.seed(0), seed);
+        nothingOfTheOldTown();
+    }
+
+    private static void nothingOfTheOldTown() {
+        StringBuilder full = new StringBuilder("town 6 6;piper 5 5;pay 50 50;tune 1 1;tune 1 1;tune 1 1;crowd 0 4 5 1 1 0;");
+        for (int i = 0; i < 30; i++) {
+            full.append("gate ").append(i % 6).append(' ').append(i / 6).append(';');
+        }
+        HeardTunes x = Check.told(full.toString());
+        Check.due("a town of the same size", Check.tell(x, "town 6 6;"), 36);
+        for (int i = 0; i < 36; i++) {
+            Check.due("no gate of the old town", x.cell(i % 6, i / 6), 0);
+        }
+        Check.due("nor its piper", x.told(6), 0);
+        Check.due("nor its crowd", x.told(2), 0);
+        Check.due("nor its tunes", x.told(3), 0);
+        Check.due("all may be told again", Check.tell(x, full.toString()), 36);
+        Check.due("a town with another pay", Check.tell(x, "town 2 1;gate 0 0;crowd 0 1 0 9 1 0;tune 1 1;pay 3 1;"), 2);
+        x.minute(4, 0);
+        Check.due("what a head is worth now", x.told(10), 27);
+        Check.due("a town without pay", Check.tell(x, "town 2 1;gate 0 0;crowd 0 1 0 9 1 0;tune 1 1;"), 2);
+        x.minute(4, 0);
+        Check.due("what a head is worth untold", x.told(10), 9);
     }
 
     private static void told() {
