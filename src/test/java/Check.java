@@ -6,16 +6,28 @@ final class Check {
 
     private static int asked = 0;
     private static int wrong = 0;
+    private static String sentence = "";
 
     private Check() {
+    }
+
+    /** The words of the document that the next answers are held to; they must stand in it. */
+    static void says(String words) {
+        sentence = "";
+        isTrue("the document says \"" + words + "\"", Doc.says(words));
+        sentence = "\"" + words + "\": ";
     }
 
     static void due(String call, long got, long want) {
         asked++;
         if (got != want) {
             wrong++;
-            System.out.println(call + " answered " + got + ", due is " + want);
+            System.out.println(sentence + call + " answered " + got + ", due is " + want);
         }
+    }
+
+    static void same(String what, String got, String want) {
+        isTrue(what + ": " + got + " should be " + want, got.equals(want));
     }
 
     static void isTrue(String what, boolean is) {
@@ -66,12 +78,13 @@ final class Check {
         for (int what = 0; what <= 12; what++) {
             all.append(x.told(what)).append(' ');
         }
-        for (int y = 0; y < x.told(1); y++) {
-            for (int at = 0; at < x.told(0); at++) {
-                all.append(x.cell(at, y));
-            }
+        int w = x.told(0);
+        int h = x.told(1);
+        int crowds = x.told(2);
+        for (int i = 0; i < w * h; i++) {
+            all.append(x.cell(i % w, i / w));
         }
-        for (int c = 0; c < x.told(2); c++) {
+        for (int c = 0; c < crowds; c++) {
             for (int what = 4; what <= 6; what++) {
                 all.append(' ').append(x.crowd(c, what));
             }
