@@ -1,11 +1,6 @@
 /** Section 2 and promises 5 to 12: each bound of what is told, of ways, minutes, walls and drift. */
 public final class MinuteBoundsTest {
     private static final int NONE = Check.NONE, UNKNOWN = Check.UNKNOWN, OUTSIDE = Check.OUTSIDE, NOT = Check.NOT;
-    // One way of 23 steps from 0 0 to 6 5: each row of walls has its gap at the other end.
-    private static final String SNAKE = "town 7 6;"
-        + "wall 0 1;wall 1 1;wall 2 1;wall 3 1;wall 4 1;wall 5 1;"
-        + "wall 1 3;wall 2 3;wall 3 3;wall 4 3;wall 5 3;wall 6 3;"
-        + "wall 0 5;wall 1 5;wall 2 5;wall 3 5;wall 4 5;wall 5 5;";
 
     public static void main(String[] args) {
         told();
@@ -210,6 +205,20 @@ public final class MinuteBoundsTest {
         HeardTunes one = Check.told("town 1 1;wall 0 0;");
         Check.due("a wall alone", one.far(0, 0, 0, 0), 0);
         farOfNoCell();
+        farInTheOpen();
+    }
+
+    private static void farInTheOpen() {
+        Check.says("FAR is the fewest steps of one");
+        int[][] froms = {{0, 0}, {6, 5}, {3, 2}};
+        for (int[] from : froms) {
+            HeardTunes x = Check.told("town 7 6;");
+            for (int i = 0; i < 42; i++) {
+                int due = Math.abs(from[0] - i % 7) + Math.abs(from[1] - i / 7);
+                Check.due("to " + i % 7 + " " + i / 7, x.far(from[0], from[1], i % 7, i / 7), due);
+                Check.due("from " + i % 7 + " " + i / 7, x.far(i % 7, i / 7, from[0], from[1]), due);
+            }
+        }
     }
 
     private static void farOfNoCell() {
@@ -226,16 +235,16 @@ public final class MinuteBoundsTest {
 
     private static void farAtItsMost() {
         Check.says("heard R CELLS far, 0 .. 20)");
-        HeardTunes x = Check.told(SNAKE);
+        HeardTunes x = Check.told(Texts.SNAKE);
         Check.due("to the end of the snake", x.far(0, 0, 6, 5), 23);
         Check.due("and back", x.far(6, 5, 0, 0), 23);
         Check.due("20 far", x.far(0, 0, 4, 4), 20);
         Check.due("21 far", x.far(0, 0, 5, 4), 21);
-        HeardTunes near = Check.told(SNAKE + "crowd 0 0 0 9 1 0;tune 1 20;piper 4 4;");
+        HeardTunes near = Check.told(Texts.SNAKE + "crowd 0 0 0 9 1 0;tune 1 20;piper 4 4;");
         Check.due("20 far is heard", near.tune(0, 2), 1);
         near.minute(0, 0);
         Check.due("they come", near.crowd(0, 4), 10);
-        HeardTunes beyond = Check.told(SNAKE + "crowd 0 0 0 9 1 0;tune 1 20;piper 5 4;");
+        HeardTunes beyond = Check.told(Texts.SNAKE + "crowd 0 0 0 9 1 0;tune 1 20;piper 5 4;");
         Check.due("21 far is not", beyond.tune(0, 2), 0);
         beyond.minute(0, 0);
         Check.due("they stay", beyond.crowd(0, 4), 0);

@@ -2,11 +2,6 @@
 public final class PlanBoundsTest {
     private static final int NONE = Check.NONE, UNKNOWN = Check.UNKNOWN, OUTSIDE = Check.OUTSIDE, FULL = Check.FULL;
     private static final int MIN = Integer.MIN_VALUE, MAX = Integer.MAX_VALUE;
-    // One way of 23 steps from 0 0 to 6 5: each row of walls has its gap at the other end.
-    private static final String SNAKE = "town 7 6;"
-        + "wall 0 1;wall 1 1;wall 2 1;wall 3 1;wall 4 1;wall 5 1;"
-        + "wall 1 3;wall 2 3;wall 3 3;wall 4 3;wall 5 3;wall 6 3;"
-        + "wall 0 5;wall 1 5;wall 2 5;wall 3 5;wall 4 5;wall 5 5;";
 
     public static void main(String[] args) {
         planBounds();
@@ -20,6 +15,7 @@ public final class PlanBoundsTest {
         triedUpToWrong();
         triedThoseOfNow();
         triedAtItsMost();
+        thirtiethMinute();
         where();
         whereUpToWrong();
         soonestMinutes();
@@ -226,9 +222,27 @@ public final class PlanBoundsTest {
         }
     }
 
+    private static void thirtiethMinute() {
+        Check.says("a TUNE or none; 30 at most)");
+        HeardTunes x = Check.told("town 3 1;gate 2 0;crowd 0 1 0 9 1 0;tune 1 20;piper 1 0;");
+        for (int i = 0; i < 29; i++) {
+            x.plan(0, NONE);
+        }
+        Check.due("nobody is out by 29", x.tried(0, 0), 0);
+        Check.due("the last", x.plan(2, 0), 30);
+        Check.due("it may be", x.judge(), NONE);
+        Check.due("they are out by it", x.tried(0, 0), 9);
+        Check.due("its worth", x.tried(NONE, 0), 9);
+        Check.due("before it", x.where(0, 29), 10);
+        Check.due("behind it", x.where(0, 30), 20);
+        Check.due("they need wax", x.wax(0), 1);
+        Check.due("the one cell for a wall", x.bestWall(0, 0), 0);
+        Check.due("it does not help", x.bestWall(0, 1), 9);
+    }
+
     private static void where() {
         Check.says("Where a CROWD's FOLLOWERS are behind m MINUTES of the PLAN (0 .. 30; 10 times X and Y; up to WRONG, the end). UNKNOWN, OUTSIDE.");
-        HeardTunes x = Check.told(SNAKE + "crowd 0 0 0 9 1 0;tune 1 20;piper 4 4;");
+        HeardTunes x = Check.told(Texts.SNAKE + "crowd 0 0 0 9 1 0;tune 1 20;piper 4 4;");
         Check.due("no plan, m = 0", x.where(0, 0), 0);
         Check.due("no plan, m = 30", x.where(0, 30), 0);
         x.plan(0, 0);
@@ -265,7 +279,7 @@ public final class PlanBoundsTest {
     }
 
     private static void soonestMinutes() {
-        Check.says("SOONEST: the fewest MINUTES (0 .. 6)");
+        Check.says("SOONEST: the fewest MINUTES (0 .. 6) by which he");
         for (int away = 1; away <= 8; away++) {
             // Pace 1: as many minutes as steps to the gate; he steps on it in the last.
             HeardTunes x = Check.told("town 9 1;gate 8 0;crowd 0 " + (8 - away) + " 0 9 1 0;tune 1 20;piper 7 0;");
@@ -283,12 +297,12 @@ public final class PlanBoundsTest {
 
     private static void soonestByPace() {
         Check.says("can have all FOLLOWERS of a KIND OUT");
-        HeardTunes six = Check.told(SNAKE + "gate 2 4;crowd 0 0 0 9 3 0;tune 1 20;piper 3 4;");
+        HeardTunes six = Check.told(Texts.SNAKE + "gate 2 4;crowd 0 0 0 9 3 0;tune 1 20;piper 3 4;");
         Check.due("18 far by pace 3", six.soonest(0, 0, NONE), 6);
         for (int i = 0; i < 6; i++) {
             Check.due("STEP " + i, six.soonest(0, 0, i), 0);
         }
-        HeardTunes seven = Check.told(SNAKE + "gate 3 4;crowd 0 0 0 9 3 0;tune 1 20;piper 4 4;");
+        HeardTunes seven = Check.told(Texts.SNAKE + "gate 3 4;crowd 0 0 0 9 3 0;tune 1 20;piper 4 4;");
         Check.due("19 far by pace 3", seven.soonest(0, 0, NONE), NONE);
         HeardTunes two = Check.told("town 9 1;gate 0 0;gate 8 0;crowd 0 1 0 9 1 0;crowd 0 7 0 9 1 0;tune 1 20;piper 4 0;");
         Check.due("all crowds, not one alone", two.soonest(0, 0, NONE), NONE);
@@ -496,6 +510,7 @@ public final class PlanBoundsTest {
         Check.due("KIND 2: not yet at the gate", x.wax(2), 0);
         x.plan(0, NONE);
         Check.due("KIND 2", x.wax(2), 16);
+        Check.says("`int wax(int k)`: WAX. UNKNOWN.");
         Check.due("k = 3", x.wax(3), UNKNOWN);
         Check.due("k = -1", x.wax(-1), UNKNOWN);
         HeardTunes wet = Check.told("town 3 1;water 1 0;crowd 0 0 0 9 1 0;tune 1 20;piper 2 0;");

@@ -141,7 +141,9 @@ public final class RefusalsTest {
     }
 
     private static int[][] cellsThatAreNot() {
-        return new int[][] {{-1, 0}, {W, 0}, {0, -1}, {0, H}, {MIN, 0}, {MAX, 0}, {0, MIN}, {0, MAX}, {W, H}, {-1, -1}, {-1, H}};
+        // -1 and W in a later row would be cells of the row beside it, were X not looked at.
+        return new int[][] {{-1, 0}, {W, 0}, {0, -1}, {0, H}, {MIN, 0}, {MAX, 0}, {0, MIN}, {0, MAX}, {W, H}, {-1, -1}, {-1, H}, {-1, 1}, {-1, 2},
+            {W, 1}, {W, -1}};
     }
 
     private static void crowd() {
@@ -313,7 +315,8 @@ public final class RefusalsTest {
 
     private static void inAFullOne() {
         open("in a full one", RefusalsTest::full);
-        Check.says("REFUSALS, of several the first in this order");
+        Check.says("REFUSALS, of several the first in this order: UNKNOWN (a CELL, CROWD, TUNE, KIND, IMAGE that there is not), "
+            + "OUTSIDE (another number out of its bounds), NOT (not now, as told), FULL.");
         for (int n : new int[] {3, 4, 8}) {
             refused("feed(" + n + ", 0)", FULL, x -> x.feed(n, 0));
         }

@@ -11,6 +11,7 @@ public final class SeenBoundsTest {
         walksOfN();
         walksCount();
         walksFirst();
+        walksLastStep();
         seenUpToN();
         seenOfTheLast();
         walksPlayAlways();
@@ -153,6 +154,19 @@ public final class SeenBoundsTest {
         Check.due("two walks", two.walks(2, 0, NONE), 2);
         Check.due("STEP 0", two.walks(2, 0, 0), 1);
         Check.due("STEP 1", two.walks(2, 0, 1), 2);
+    }
+
+    private static void walksLastStep() {
+        Check.says("else STEP i of the first");
+        // Heard one cell far, he has to come nearer in each of the five minutes.
+        HeardTunes x = Check.told("town 9 1;crowd 0 6 0 9 1 0;tune 1 1;piper 0 0;");
+        x.see(0, 5, 5, 0);
+        Check.due("one walk", x.walks(5, 0, NONE), 1);
+        for (int i = 0; i < 5; i++) {
+            Check.due("STEP " + i, x.walks(5, 0, i), 2);
+        }
+        Check.due("no STEP 5", x.walks(5, 0, 5), NONE);
+        Check.due("nobody was seen by four", x.walks(4, 0, 3), 0);
     }
 
     private static void seenUpToN() {

@@ -37,6 +37,8 @@ public final class TextBoundsTest {
         asTheyCome();
         emptyText();
         townForgets();
+        oldTextIsGone();
+        lastCell();
         faultKeeps();
         faultOfTheLatest();
         Check.end("TextBoundsTest");
@@ -246,7 +248,7 @@ public final class TextBoundsTest {
     }
 
     private static void threeTunes() {
-        Check.says("a fourth 'tune'");
+        Check.says("(3 TUNES at most: a SET of KINDS S 1 .. 7 follows;");
         String three = "town 2 2;tune 1 1;tune 2 2;tune 3 3;";
         HeardTunes x = Check.told(three);
         Check.due("three", x.told(3), 3);
@@ -284,7 +286,7 @@ public final class TextBoundsTest {
     }
 
     private static void pay() {
-        Check.says("0 .. 99 both; 1 1 untold; once)");
+        Check.says("(V for a HEAD that is out, F to be paid for one that is drowned, 0 .. 99 both; 1 1 untold; once)");
         for (int[] vf : new int[][] {{0, 0}, {0, 99}, {99, 0}, {99, 99}}) {
             String pay = "pay " + vf[0] + " " + vf[1] + ";";
             Check.due("V of " + pay, worth("gate", pay), 7 * vf[0]);
@@ -326,7 +328,7 @@ public final class TextBoundsTest {
 
     private static void letters() {
         Check.says("words are letters a .. z side by side");
-        for (String bad : new String[] {"Wall", "walL", "wal", "walls", "walla", "zwall", "wa1l", "w", "a", "z", "WALL", "townwall"}) {
+        for (String bad : new String[] {"Wall", "walL", "wal", "walls", "walla", "wallz", "zwall", "wa1l", "w", "a", "z", "WALL", "townwall"}) {
             Check.faulty("town 3 3;" + bad + " 0 0;", 1, 9);
         }
         // The bytes beside a .. z are no letters: behind a word they cannot stand themselves.
@@ -568,6 +570,43 @@ public final class TextBoundsTest {
         Check.due("the crowd where it is told", x.crowd(0, 4), 0);
         Check.due("without a goal", x.crowd(0, 5), NONE);
         Check.due("the seed stays", x.seed(1), 2147483647);
+    }
+
+    private static void oldTextIsGone() {
+        Check.says("THE TEXT (it is empty then)");
+        // Bytes of an earlier, longer text must not go on where a shorter one ends.
+        String[][] texts = {{"town 1 1;pay 9 999999", "town 1 1;pay 9 9", "16"}, {"town 1 1;tune 1 1;", "town 1 1;tune", "13"},
+            {"town 1 1;townhall", "town 1 1;town", "9"}, {"town 1 1;", "town 1 1", "8"}, {"town 1 1;   x", "town 1 1; ", "-1"}};
+        for (String[] row : texts) {
+            HeardTunes x = new HeardTunes();
+            Check.tell(x, row[0]);
+            Check.due("told(4)", x.told(4), 0);
+            Check.tell(x, row[1]);
+            Check.due(row[1] + " behind " + row[0], x.fault(), Integer.parseInt(row[2]));
+        }
+    }
+
+    private static void lastCell() {
+        Check.says("W, H 1 .. 9, 42 CELLS at most");
+        HeardTunes x = new HeardTunes();
+        for (int spot = 1; spot <= 3; spot++) {
+            Check.due("42 cells", Check.tell(x, "town 7 6;" + SPOTS[spot - 1] + " 6 5;"), 42);
+            Check.due("the last of them", x.cell(6, 5), spot);
+            Check.due("42 cells again", Check.tell(x, "town 7 6;"), 42);
+            Check.due("the last of them is free", x.cell(6, 5), 0);
+        }
+        Check.due("a wall on it", x.wall(6, 5, true), 0);
+        x.keep(0);
+        Check.due("it goes", x.wall(6, 5, false), 1);
+        x.keep(1);
+        x.goBack(0);
+        Check.due("an image has it", x.cell(6, 5), 1);
+        Check.due("no way to it", x.far(0, 0, 6, 5), NONE);
+        x.goBack(1);
+        Check.due("the other has it not", x.cell(6, 5), 0);
+        Check.due("a way to it", x.far(0, 0, 6, 5), 11);
+        x.wall(6, 4, true);
+        Check.due("another way to it", x.far(6, 3, 6, 5), 4);
     }
 
     private static void faultKeeps() {

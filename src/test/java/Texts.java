@@ -3,8 +3,14 @@ import java.util.Collections;
 import java.util.List;
 import java.util.Random;
 
-/** Texts of towns by a given random source: good ones, and such as most likely have a fault. */
+/** Texts of towns: one by hand, and by a given random source good ones and such as most likely have a fault. */
 final class Texts {
+    /** One way of 23 steps from 0 0 to 6 5: each row of walls has its gap at the other end. */
+    static final String SNAKE = "town 7 6;"
+        + "wall 0 1;wall 1 1;wall 2 1;wall 3 1;wall 4 1;wall 5 1;"
+        + "wall 1 3;wall 2 3;wall 3 3;wall 4 3;wall 5 3;wall 6 3;"
+        + "wall 0 5;wall 1 5;wall 2 5;wall 3 5;wall 4 5;wall 5 5;";
+
     private static final String[] SPOTS = {"wall", "wall", "water", "gate"};
     private static final String[] SCRAPS = {
         "town 1 1;", "wall 0 0;", "water 0 0;", "gate 0 0;", "crowd 0 0 0 9 1 0;", "tune 7 20;", "piper 0 0;",
