@@ -79,7 +79,7 @@ public final class HeardTunes {
             case 3: return tale.tunes;
             case 4: return reader.length;
             case 5: return now.minutes;
-            case 6: return ground.code(now.piper);
+            case 6: return ground.count == 0 ? 0 : ground.code(now.piper);
             case 7: return now.heads(NONE, OUT);
             case 8: return now.heads(NONE, DROWNED);
             case 9: return now.left();
@@ -92,7 +92,7 @@ public final class HeardTunes {
 
     public int cell(int x, int y) {
         int at = ground.cellAt(x, y);
-        return at == NONE ? UNKNOWN : ground.whats[at];
+        return at == NONE ? UNKNOWN : ground.what(at);
     }
 
     public int crowd(int c, int what) {
@@ -151,7 +151,7 @@ public final class HeardTunes {
         if (at == NONE) {
             return UNKNOWN;
         }
-        int what = ground.whats[at];
+        int what = ground.what(at);
         if (what == WATER || what == GATE || now.holds(at)) {
             return NOT;
         }
@@ -248,7 +248,7 @@ public final class HeardTunes {
         walledGround.copy(ground);
         // Nobody who is out comes back: no wall leaves fewer than are out now.
         for (int at = 0; at < ground.count && (best == NONE || fewest > outNow); at++) {
-            if (ground.whats[at] == FREE && !now.holds(at)) {
+            if (ground.what(at) == FREE && !now.holds(at)) {
                 int heads = outBehindWall(at, k);
                 if (best == NONE || heads < fewest) {
                     best = at;
@@ -432,20 +432,33 @@ public final class HeardTunes {
         }
 
         int followers(int c) {
-            return heads[c] - deaf[c];
+            return c >= 0 && c < MOST_CROWDS ? heads[c] - deaf[c] : 0;
         }
 
         boolean isFollower(int c, int t) {
-            return (follows[t] >> kind[c] & 1) == 1;
+            boolean areThere = c >= 0 && c < MOST_CROWDS && t >= 0 && t < MOST_TUNES;
+            return areThere && (follows[t] >> kind[c] & 1) == 1;
+        }
+
+        /** Whether a wall, water, a gate was told there. */
+        boolean isSpot(int at) {
+            return Ground.isCell(at) && what[at] != FREE;
         }
 
         /** Whether no wall, water, gate may be told there. */
         boolean isTaken(int at) {
-            boolean taken = what[at] != FREE || piper == at;
+            boolean taken = isSpot(at) || piper == at;
             for (int c = 0; c < crowds; c++) {
                 taken = taken || start[c] == at;
             }
             return taken;
+        }
+
+        void addSpot(int at, int ofWhat) {
+            if (Ground.isCell(at)) {
+                what[at] = ofWhat;
+                spots++;
+            }
         }
 
         void addCrowd(int ofKind, int at, int n, int p, int d) {
@@ -469,7 +482,7 @@ public final class HeardTunes {
 
         void placePiperIfUntold() {
             for (int at = 0; at < width * height && piper == NONE; at++) {
-                if (what[at] == FREE) {
+                if (!isSpot(at)) {
                     piper = at;
                 }
             }
@@ -571,8 +584,7 @@ public final class HeardTunes {
             if (town.isTaken(at)) {
                 blame(TAKEN, numberAt);
             } else {
-                town.what[at] = what;
-                town.spots++;
+                town.addSpot(at, what);
             }
         }
 
@@ -619,7 +631,7 @@ public final class HeardTunes {
 
         /** Right behind the cell's Y, where the fault is. */
         private void blameIfSpot(Town town, int at) {
-            if (at != NONE && town.what[at] != FREE) {
+            if (town.isSpot(at)) {
                 blame(TAKEN, numberAt);
             }
         }
@@ -683,7 +695,7 @@ public final class HeardTunes {
 
         private boolean isWord(int from, String word) {
             boolean same = next - from == word.length();
-            for (int i = 0; same && i < word.length(); i++) {
+            for (int i = 0; same && i < word.length() && from + i < length; i++) {
                 same = text[from + i] == word.charAt(i);
             }
             return same;
@@ -695,7 +707,10 @@ public final class HeardTunes {
         }
     }
 
-    /** The cells as they are now, and how far it is by ways. */
+    /**
+     * The cells as they are now, and how far it is by ways. Searches ask it most: here indexes are
+     * tested in place, not by a call.
+     */
     static final class Ground {
         int count;
         final int[] whats = new int[MOST_CELLS];
@@ -707,6 +722,10 @@ public final class HeardTunes {
         private final int[] ways = new int[MOST_CELLS * MOST_CELLS];
         private final boolean[] isFound = new boolean[MOST_CELLS];
         private final int[] queue = new int[MOST_CELLS];
+
+        static boolean isCell(int at) {
+            return at >= 0 && at < MOST_CELLS;
+        }
 
         void lay(Town town) {
             width = town.width;
@@ -751,8 +770,10 @@ public final class HeardTunes {
         }
 
         void put(int at, int what) {
-            whats[at] = what;
-            forgetWays();
+            if (isCell(at)) {
+                whats[at] = what;
+                forgetWays();
+            }
         }
 
         private void forgetWays() {
@@ -765,17 +786,26 @@ public final class HeardTunes {
             return x >= 0 && x < width && y >= 0 && y < height ? y * width + x : NONE;
         }
 
-        /** NONE of NONE; 0 of the piper's cell without cells. */
+        /** Off the town there is no way, as on walls. */
+        int what(int at) {
+            return at >= 0 && at < MOST_CELLS ? whats[at] : WALL;
+        }
+
+        /** 10 times X and Y; NONE of NONE. */
         int code(int at) {
-            return at == NONE ? NONE : count == 0 ? 0 : codes[at];
+            return isCell(at) ? codes[at] : NONE;
         }
 
         /** Where a step (1 .. 4) leads; NONE off the town. */
         int beside(int at, int step) {
-            return besides[at * STEPS + step - 1];
+            boolean isThere = at >= 0 && at < MOST_CELLS && step >= 1 && step <= STEPS;
+            return isThere ? besides[at * STEPS + step - 1] : NONE;
         }
 
         int steps(int from, int goal) {
+            if (from < 0 || from >= MOST_CELLS || goal < 0 || goal >= MOST_CELLS) {
+                return NONE;
+            }
             if (!isFound[goal]) {
                 findWays(goal);
             }
@@ -784,6 +814,9 @@ public final class HeardTunes {
 
         /** The cell to go to next; NONE at the goal and where no way leads to it. */
         int onward(int from, int goal) {
+            if (from < 0 || from >= MOST_CELLS || goal < 0 || goal >= MOST_CELLS) {
+                return NONE;
+            }
             if (!isFound[goal]) {
                 findWays(goal);
             }
@@ -792,7 +825,7 @@ public final class HeardTunes {
             // At the goal a cell without a way would look as if it were one less far.
             for (int i = 0; i < STEPS && left > 0; i++) {
                 int to = besides[from * STEPS + i];
-                if (to != NONE && ways[first + to] == left - 1) {
+                if (to >= 0 && to < MOST_CELLS && ways[first + to] == left - 1) {
                     return to;
                 }
             }
@@ -812,7 +845,8 @@ public final class HeardTunes {
                 int from = queue[next];
                 for (int i = 0; i < STEPS; i++) {
                     int to = besides[from * STEPS + i];
-                    if (to != NONE && whats[to] != WALL && ways[first + to] == NONE && queued < MOST_CELLS) {
+                    boolean isOpen = to >= 0 && to < MOST_CELLS && whats[to] != WALL;
+                    if (isOpen && ways[first + to] == NONE && queued < MOST_CELLS) {
                         ways[first + to] = ways[first + from] + 1;
                         queue[queued] = to;
                         queued++;
@@ -858,8 +892,8 @@ public final class HeardTunes {
             if (ground.count == 0 || step == 0) {
                 return ground.count > 0;
             }
-            int to = ground.beside(piper, step);
-            return to != NONE && ground.whats[to] != WALL && ground.whats[to] != WATER;
+            int what = ground.what(ground.beside(piper, step));
+            return what != WALL && what != WATER;
         }
 
         /** A minute whose step may be. */
@@ -908,7 +942,8 @@ public final class HeardTunes {
 
         /** No crowd begins on water or at a gate: who is there went there. */
         int fate(int c) {
-            int what = ground.whats[at[c]];
+            int cell = c >= 0 && c < MOST_CROWDS ? at[c] : NONE;
+            int what = cell >= 0 && cell < MOST_CELLS ? ground.whats[cell] : FREE;
             return what == GATE ? OUT : what == WATER ? DROWNED : HERE;
         }
 
@@ -917,11 +952,15 @@ public final class HeardTunes {
             return town.followers(c) > 0 && fate(c) == HERE;
         }
 
+        boolean isAt(int c, int cell) {
+            return c >= 0 && c < MOST_CROWDS && at[c] == cell;
+        }
+
         /** Whether the piper or followers who are here are on a cell. */
         boolean holds(int cell) {
             boolean is = piper == cell;
             for (int c = 0; c < town.crowds; c++) {
-                is = is || at[c] == cell && isHere(c);
+                is = is || isAt(c, cell) && isHere(c);
             }
             return is;
         }
@@ -1012,7 +1051,7 @@ public final class HeardTunes {
         boolean fits(Scene scene, int m) {
             boolean fits = true;
             for (int i = 0; i < count; i++) {
-                fits = fits && (minutes[i] != m || scene.at[crowds[i]] == cells[i]);
+                fits = fits && (minutes[i] != m || scene.isAt(crowds[i], cells[i]));
             }
             return fits;
         }
@@ -1120,7 +1159,7 @@ public final class HeardTunes {
                 toGate[at] = NONE;
             }
             for (int gate = 0; gate < ground.count; gate++) {
-                for (int at = 0; at < ground.count && ground.whats[gate] == GATE; at++) {
+                for (int at = 0; at < ground.count && ground.what(gate) == GATE; at++) {
                     int away = ground.steps(at, gate);
                     if (away != NONE && (toGate[at] == NONE || away < toGate[at])) {
                         toGate[at] = away;
@@ -1130,6 +1169,9 @@ public final class HeardTunes {
         }
 
         private boolean leads(int depth, int most) {
+            if (depth < 0 || depth > MOST_SOONEST) {
+                return false;
+            }
             Scene scene = levels[depth];
             int rest = most - depth;
             int outlook = outlook(scene, rest);
@@ -1177,7 +1219,8 @@ public final class HeardTunes {
 
         /** Whether a crowd may be out by then, as far as its pace, the gates and its ears tell. */
         private boolean canLeave(Scene scene, int c, int rest) {
-            int away = toGate[scene.at[c]];
+            int cell = scene.at[c];
+            int away = Ground.isCell(cell) ? toGate[cell] : NONE;
             boolean moves = scene.goal[c] != NONE || town.isFollower(c, tune);
             return moves && away != NONE && away <= rest * town.pace[c];
         }
@@ -1232,27 +1275,34 @@ public final class HeardTunes {
             for (int n = 1; n <= length - latest; n++) {
                 for (int at = 0; at < ground.count; at++) {
                     probe.piper = at;
-                    free[n * MOST_CELLS + at] = countFreeFrom(probe, (n - 1) * MOST_CELLS);
+                    free[n * MOST_CELLS + at] = countFreeFrom(probe, n - 1);
                 }
             }
         }
 
         private int countFreeFrom(Scene probe, int shorter) {
-            int sum = free[shorter + probe.piper];
+            int sum = freeFrom(probe.piper, shorter);
             for (int step = 1; step <= STEPS; step++) {
                 if (probe.may(step)) {
-                    sum += free[shorter + ground.beside(probe.piper, step)];
+                    sum += freeFrom(ground.beside(probe.piper, step), shorter);
                 }
             }
             return sum;
         }
 
+        private int freeFrom(int at, int n) {
+            return Ground.isCell(at) && n >= 0 && n <= MOST_WALK ? free[n * MOST_CELLS + at] : 0;
+        }
+
         /** How many; behind the latest that was seen all walks fit, and staying is the first. */
         private int fit(int depth) {
+            if (depth < 0 || depth > MOST_WALK) {
+                return 0;
+            }
             Scene scene = levels[depth];
             if (depth >= latest || depth >= MOST_WALK) {
                 keepFirst();
-                return free[(length - latest) * MOST_CELLS + scene.piper];
+                return freeFrom(scene.piper, length - latest);
             }
             long places = (long) depth << 42 | scene.places();
             long goals = scene.goals();

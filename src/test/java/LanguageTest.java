@@ -5,6 +5,8 @@ import java.lang.reflect.Method;
 import java.lang.reflect.Modifier;
 import java.nio.file.Files;
 import java.nio.file.Path;
+import java.util.List;
+import java.util.Map;
 import java.util.Set;
 import java.util.TreeSet;
 import java.util.regex.Matcher;
@@ -18,20 +20,24 @@ public final class LanguageTest {
         "judge()", "tried(int,int)", "where(int,int)", "soonest(int,int,int)", "bestWall(int,int)", "wax(int)",
         "see(int,int,int,int)", "walks(int,int,int)", "tear()", "seed(int)", "keep(int)", "goBack(int)"};
     private static final String[] CONSTANTS = {"NONE", "UNKNOWN", "OUTSIDE", "NOT", "FULL"};
+    // Rule 4 lists more; the class needs no more.
+    private static final Set<String> LIBRARY = Set.of("java/lang/Object.<init>()V", "java/lang/String.length()I",
+        "java/lang/String.charAt(I)C", "java/lang/Math.max(II)I", "java/lang/Math.min(II)I");
+    private static final Set<String> RECURSIVE = Set.of("HeardTunes$Soonest.leads(II)Z", "HeardTunes$Soonest.stepLeads(II)Z",
+        "HeardTunes$Fitting.fit(I)I", "HeardTunes$Fitting.fitSteps(I)I");
+    private static final int MOST_DEEP = 8;
 
     public static void main(String[] args) throws IOException {
         face();
         classes();
         words(Files.readString(Path.of("src/main/java/HeardTunes.java")));
+        instructions(Compiled.all(HeardTunes.class));
         Check.end("LanguageTest");
     }
 
     private static void face() {
         Set<String> due = new TreeSet<>(Set.of(FACE));
-        Set<String> names = new TreeSet<>();
-        for (String one : FACE) {
-            names.add(one.substring(0, one.indexOf('(')));
-        }
+        Set<String> names = names();
         Set<String> got = new TreeSet<>();
         for (Method method : HeardTunes.class.getDeclaredMethods()) {
             if (Modifier.isPublic(method.getModifiers())) {
@@ -57,6 +63,14 @@ public final class LanguageTest {
         Check.isTrue("the class is final", Modifier.isFinal(HeardTunes.class.getModifiers()));
     }
 
+    private static Set<String> names() {
+        Set<String> names = new TreeSet<>();
+        for (String one : FACE) {
+            names.add(one.substring(0, one.indexOf('(')));
+        }
+        return names;
+    }
+
     private static String signature(Method method) {
         StringBuilder text = new StringBuilder(method.getName()).append('(');
         for (Class<?> type : method.getParameterTypes()) {
@@ -75,6 +89,12 @@ public final class LanguageTest {
             fields(one);
             for (Method method : one.getDeclaredMethods()) {
                 Check.isTrue(method + " has seven parameters at most", method.getParameterCount() <= 7);
+                Check.isTrue(method + " has a name of its own", !names().contains(method.getName()));
+                Check.isTrue(method + " answers a type of rule 3",
+                    method.getReturnType() == void.class || isAllowed(method.getReturnType()));
+                for (Class<?> type : method.getParameterTypes()) {
+                    Check.isTrue(method + " takes types of rule 3", isAllowed(type));
+                }
             }
         }
     }
@@ -84,11 +104,46 @@ public final class LanguageTest {
         for (Field field : one.getDeclaredFields()) {
             if (Modifier.isStatic(field.getModifiers())) {
                 Check.isTrue(field + " is final", Modifier.isFinal(field.getModifiers()));
+                Check.isTrue(field + " is a constant of rule 5", field.getType().isPrimitive() || field.getType() == String.class);
             } else {
                 own++;
+                Check.isTrue(field + " has a type of rule 3", isAllowed(field.getType()));
             }
         }
         Check.isTrue(one + " has twenty fields at most", own <= 20);
+    }
+
+    private static boolean isAllowed(Class<?> type) {
+        Class<?> single = type.isArray() ? type.getComponentType() : type;
+        boolean isOwn = single.getNestHost() == HeardTunes.class;
+        return isOwn || single.isPrimitive() || type == String.class
+            || single.isArray() && single.getComponentType().isPrimitive();
+    }
+
+    /** Rules 4 to 6, 8, 11 and 12, by what the compiler made of the class. */
+    private static void instructions(Map<String, Compiled.Code> all) {
+        Check.isTrue("the class files are read", all.size() > FACE.length);
+        for (Map.Entry<String, Compiled.Code> one : all.entrySet()) {
+            String method = one.getKey();
+            Compiled.Code code = one.getValue();
+            for (String call : code.calls) {
+                Check.isTrue(method + " may call " + call, all.containsKey(call) || LIBRARY.contains(call));
+            }
+            Check.isTrue(method + " catches nothing", !code.catches);
+            Check.isTrue(method + " throws nothing", !code.instructions.contains(Compiled.ATHROW));
+            Check.isTrue(method + " locks nothing", !code.instructions.contains(Compiled.MONITOR_ENTER));
+            Check.isTrue(method + " has no lambda and joins no texts", !code.instructions.contains(Compiled.INVOKE_DYNAMIC));
+            Check.isTrue(method + " is no static initialiser", !method.contains("<clinit>"));
+            Check.isTrue(method + " makes nothing unless it is a constructor", method.contains("<init>") || !makes(code));
+            Check.isTrue(method + " calls itself only if it is known to", Compiled.comesBack(all, method) == RECURSIVE.contains(method));
+            List<String> deepest = Compiled.deepest(all, method);
+            Check.isTrue("eight deep at most: " + deepest, deepest.size() <= MOST_DEEP);
+        }
+    }
+
+    private static boolean makes(Compiled.Code code) {
+        return code.instructions.contains(Compiled.NEW) || code.instructions.contains(Compiled.NEW_ARRAY)
+            || code.instructions.contains(Compiled.NEW_ROW) || code.instructions.contains(Compiled.NEW_TABLE);
     }
 
     private static void words(String source) {
