@@ -1,7 +1,7 @@
 /** Rule 7 of LANGUAGE.md where no run of calls gets: an index is looked at before it is used. */
 public final class GuardsTest {
     private static final int NONE = Check.NONE;
-    private static final int HERE = 0, WALL = 1;
+    private static final int HERE = 0, WALL = 1, GATE = 3;
     private static final int MOST_CELLS = 42, MOST_CROWDS = 6, MOST_TUNES = 3, MOST_BYTES = 500, MOST_PLAN = 30, MOST_SEEN = 10;
     private static final int[] OFF = {Integer.MIN_VALUE, -43, -2, -1};
 
@@ -10,7 +10,7 @@ public final class GuardsTest {
     private static final HeardTunes.Scene SCENE = new HeardTunes.Scene(TOWN, GROUND);
 
     public static void main(String[] args) {
-        read("town 7 6;wall 0 0;gate 6 5;crowd 0 1 0 9 1 0;crowd 1 6 4 9 1 0;crowd 2 3 3 9 1 0;crowd 0 3 3 9 1 0;"
+        read("town 7 6;gate 0 0;gate 6 5;crowd 0 1 0 9 1 0;crowd 1 6 4 9 1 0;crowd 2 3 3 9 1 0;crowd 0 3 3 9 1 0;"
             + "crowd 1 3 3 9 1 0;crowd 2 5 5 9 3 2;tune 7 20;tune 7 20;tune 4 20;");
         cells();
         crowds();
@@ -43,11 +43,11 @@ public final class GuardsTest {
             GROUND.put(at, WALL);
         }
         for (int step : new int[] {Integer.MIN_VALUE, -1, 0, 5, Integer.MAX_VALUE}) {
-            Check.due("beside(8, " + step + ")", GROUND.beside(8, step), NONE);
+            Check.due("beside(9, " + step + ")", GROUND.beside(9, step), NONE);
         }
         Check.due("no spot came of it", TOWN.spots, 2);
-        Check.due("the first cell", GROUND.what(0), WALL);
-        Check.due("the last cell", GROUND.what(41), 3);
+        Check.due("the first cell", GROUND.what(0), GATE);
+        Check.due("the last cell", GROUND.what(41), GATE);
         Check.due("from one end to the other", GROUND.steps(1, 41), 10);
         Check.due("and on", GROUND.onward(34, 41), 41);
     }

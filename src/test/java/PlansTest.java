@@ -14,9 +14,12 @@ public final class PlansTest {
         soonestFromNow();
         soonestInOrder();
         soonestTooFar();
+        soonestByWhereCrowdsAre();
+        soonestByOneOfTwoGates();
         bestWall();
         bestWallAmongLikeOnes();
         bestWallSkips();
+        bestWallBehindTheDrowned();
         wax();
         plansChangeNothing();
         Check.end("PlansTest");
@@ -226,6 +229,33 @@ public final class PlansTest {
         Check.due("no STEP then", seven.soonest(0, 0, 0), NONE);
     }
 
+    /** Walks that bring him to the same cell in as many minutes, but the crowds to others. */
+    private static void soonestByWhereCrowdsAre() {
+        // Whoever goes to a gate at once is not heard: he calls them first.
+        HeardTunes x = Check.told("town 5 2;gate 0 0;gate 4 0;crowd 0 1 1 5 3 0;tune 1 3;piper 4 1;");
+        Check.due("two minutes", x.soonest(0, 0, NONE), 2);
+        Check.due("stay", x.soonest(0, 0, 0), 0);
+        Check.due("north to the gate", x.soonest(0, 0, 1), 1);
+        // Three crowds gather where he is; one of them would not hear him a cell farther.
+        x = Check.told("town 4 1;gate 3 0;crowd 0 0 0 5 3 0;crowd 0 2 0 5 1 0;crowd 0 1 0 5 2 0;tune 3 1;piper 1 0;");
+        Check.due("three minutes", x.soonest(0, 0, NONE), 3);
+        Check.due("stay", x.soonest(0, 0, 0), 0);
+        Check.due("east", x.soonest(0, 0, 1), 2);
+        Check.due("east to the gate", x.soonest(0, 0, 2), 2);
+    }
+
+    private static void soonestByOneOfTwoGates() {
+        for (String gates : new String[] {"gate 0 0;gate 4 0;", "gate 4 0;gate 0 0;"}) {
+            HeardTunes x = Check.told("town 5 1;wall 3 0;" + gates + "crowd 0 1 0 9 1 0;tune 1 20;piper 2 0;");
+            Check.due("no way leads to the other", x.soonest(0, 0, NONE), 2);
+            Check.due("west", x.soonest(0, 0, 0), 4);
+            Check.due("west again", x.soonest(0, 0, 1), 4);
+            x = Check.told("town 5 1;wall 1 0;" + gates + "crowd 0 3 0 9 1 0;tune 1 20;piper 2 0;");
+            Check.due("no way leads to the one", x.soonest(0, 0, NONE), 2);
+            Check.due("east", x.soonest(0, 0, 0), 2);
+        }
+    }
+
     private static void bestWall() {
         HeardTunes x = Check.told("town 5 2;gate 4 0;crowd 0 1 0 9 1 2;crowd 0 1 1 5 1 0;tune 1 20;piper 3 0;");
         Check.due("without a plan the first free cell", x.bestWall(0, 0), 0);
@@ -283,6 +313,21 @@ public final class PlansTest {
         out.minute(4, 0);
         Check.due("those who are out stay out", out.bestWall(1, 1), 9);
         Check.due("the first cell then", out.bestWall(1, 0), 10);
+    }
+
+    /** HEADS that are DROWNED now are no bound for HEADS OUT: the search for the wall goes on. */
+    private static void bestWallBehindTheDrowned() {
+        HeardTunes x = Check.told("town 6 2;wall 0 0;wall 1 0;water 1 1;gate 5 0;crowd 0 0 1 50 1 0;crowd 0 4 0 9 1 0;"
+            + "tune 1 2;tune 1 20;piper 2 1;");
+        x.minute(0, 0);
+        Check.due("fifty are drowned", x.told(8), 50);
+        for (int i = 0; i < 3; i++) {
+            x.plan(2, NONE);
+        }
+        x.plan(1, 1);
+        Check.due("nine would be out", x.tried(0, 0), 9);
+        Check.due("a wall before him", x.bestWall(0, 0), 31);
+        Check.due("none out then", x.bestWall(0, 1), 0);
     }
 
     private static void wax() {

@@ -9,6 +9,7 @@ public final class SeenTest {
         onlyUpToN();
         whereTheyWentOut();
         fromNow();
+        walksByWhereCrowdsAre();
         refusedWalks();
         Check.end("SeenTest");
     }
@@ -112,6 +113,30 @@ public final class SeenTest {
         x.keep(0);
         x.goBack(0);
         Check.due("an image leaves what was seen", x.told(12), 1);
+    }
+
+    /** Walks that bring him to the same cell, but the crowds to others, or behind another minute. */
+    private static void walksByWhereCrowdsAre() {
+        // Crowd 2 is wherever he is: of 70 walks 16, with 40 last steps, keep off the gate for four minutes.
+        HeardTunes x = Check.told("town 3 1;gate 0 0;crowd 1 2 0 5 2 0;crowd 0 1 0 5 1 0;crowd 0 2 0 5 1 0;tune 1 20;piper 2 0;");
+        x.see(2, 4, 0, 0);
+        Check.due("to the gate by then", x.walks(5, 0, NONE), 30);
+        int[] first = {0, 0, 4, 4, 0};
+        for (int i = 0; i < 5; i++) {
+            Check.due("STEP " + i, x.walks(5, 0, i), first[i]);
+        }
+        // Crowd 0 goes out at 2 0 in the first minute, wherever he goes: all walks fit.
+        x = Check.told("town 4 1;gate 2 0;gate 0 0;crowd 0 3 0 5 2 0;crowd 0 3 0 5 1 0;crowd 1 1 0 5 2 0;tune 1 3;piper 1 0;");
+        x.see(0, 3, 2, 0);
+        Check.due("all walks", x.walks(5, 0, NONE), 144);
+        x.see(0, 4, 2, 0);
+        Check.due("all walks still", x.walks(5, 0, NONE), 144);
+        x = Check.told("town 3 3;gate 1 0;wall 1 1;crowd 0 0 0 5 2 0;crowd 0 2 1 5 1 0;tune 3 3;piper 0 1;");
+        x.see(0, 5, 0, 0);
+        Check.due("back where they were", x.walks(5, 0, NONE), 30);
+        for (int i = 0; i < 5; i++) {
+            Check.due("STEP " + i, x.walks(5, 0, i), i < 4 ? 0 : 1);
+        }
     }
 
     private static void refusedWalks() {

@@ -14,6 +14,7 @@ public final class TownTest {
         blanks();
         faultChangesNothing();
         townBeginsAnew();
+        nothingStaysOfABiggerTown();
         told();
         cell();
         crowd();
@@ -282,6 +283,33 @@ public final class TownTest {
         Check.due("a town without pay", Check.tell(x, "town 2 1;gate 0 0;crowd 0 1 0 9 1 0;tune 1 1;"), 2);
         x.minute(4, 0);
         Check.due("what a head is worth untold", x.told(10), 9);
+    }
+
+    /** Six crowds, three tunes, then one of each: nobody of before is counted, hears, stands in a wall's way. */
+    private static void nothingStaysOfABiggerTown() {
+        String big = "town 6 2;gate 5 1;crowd 0 0 0 9 1 0;crowd 0 1 0 9 1 0;crowd 0 2 0 9 1 0;crowd 0 3 0 9 1 0;"
+            + "crowd 0 1 1 9 1 0;crowd 0 2 1 9 1 0;tune 7 20;tune 7 20;tune 7 20;piper 4 1;";
+        String small = "town 6 1;gate 5 0;crowd 1 4 0 8 1 0;tune 3 20;piper 3 0;";
+        HeardTunes x = Check.told(big);
+        Check.due("all six hear", x.tune(2, 2), 63);
+        x.minute(2, 0);
+        Check.tell(x, small);
+        Check.due("one hears", x.tune(0, 2), 1);
+        Check.due("eight are left", x.told(9), 8);
+        Check.due("no other kind is to be led", x.soonest(0, 0, NONE), 0);
+        Check.due("one kind is", x.soonest(1, 0, NONE), 2);
+        Check.due("nobody is in the wall's way", x.wall(1, 0, true), 0);
+        Check.due("no crowd 1", x.crowd(1, 4), UNKNOWN);
+        Check.due("no tune 1", x.minute(0, 1), UNKNOWN);
+        for (int seed = 0; seed < 40; seed++) {
+            x = Check.told(big);
+            Check.tell(x, small);
+            HeardTunes twin = Check.told(small);
+            x.seed(seed);
+            twin.seed(seed);
+            Check.due("drift(5) by seed " + seed, x.drift(5), twin.drift(5));
+            Check.same("what is so by seed " + seed, Check.look(x), Check.look(twin));
+        }
     }
 
     private static void told() {
